@@ -205,7 +205,7 @@ public final class HouseTest {
             "key 0 0;places", "3", "places 2;key 0 0 cut 1 1 1", "deep 1;lock asks 2", "key 0 0cut1 1 1.",
             "places -1", "key 0 0 cut 1\t", "keys 0 0", "ke 0 0", "may", "lock;key 0 0;may 0", "key 000 0",
             "key 0 0;key 0 0;key 0 0;key 0 0;key 0 0;key 0 0;key ?",
-            "lock;lock;lock;lock;lock;lock;lock;lock;lock ?"};
+            "lock;lock;lock;lock;lock;lock;lock;lock;lock ?", "lockz", "pey 0 0", "dock", "kez 0 0", "deep", "lock;ward"};
         int[] faults = {0, 3, 0, 5, 6, 5, 5, 0, 4, 0,
             7, 7, 6, 7, 5, 5, 7, 9, 9,
             9, 8, 3, 4, 6, 5, 11, 12,
@@ -214,7 +214,7 @@ public final class HouseTest {
             19, 21, 5, 8, 5,
             8, 0, 25, 17, 15,
             7, 13, 0, 0, 3, 18, 4,
-            48, 40};
+            48, 40, 0, 0, 0, 0, 4, 5};
         for (int i = 0; i < texts.length; i++) {
             CutDeeper x = new CutDeeper();
             d.due("'" + texts[i] + "'", Due.read(x, texts[i]), -20 - faults[i]);
@@ -234,6 +234,13 @@ public final class HouseTest {
         d.due("may", y.keyOf(1, 4), 1);
         d.due("no places now", Due.read(y, "places 3"), -20);
         d.due("no deep now", Due.read(y, "deep 3"), -20);
+        CutDeeper w = new CutDeeper();
+        d.due("strength 1", Due.read(w, "strength 1"), 1);
+        d.due("it is", w.status(4), 1);
+        d.due("strength 20", Due.read(w, "strength 20"), 1);
+        d.due("it is", w.status(4), 20);
+        d.due("strength 13", Due.read(w, "strength 07;strength 13"), 2);
+        d.due("it is", w.status(4), 13);
         CutDeeper z = new CutDeeper();
         d.due("places twice", Due.read(z, "places 2;places 1;deep 1;deep 4;lock asks 4;key 0 0 cut 4"), 6);
         d.due("fits", z.opens(0, 0, 1), 1);
@@ -258,6 +265,9 @@ public final class HouseTest {
         d.due("worn at 2", x.keyOf(1, 12), 1);
         d.due("not worn", x.keyOf(1, 23), 1);
         d.due("a thin one isn't worn", x.keyOf(2, 23), 0);
+        CutDeeper y = Due.of("places 2;deep 4;key 1 0 cut 4 1;lock asks 4 1");
+        d.due("worn, deep already", y.keyOf(0, 20), 4);
+        d.due("and fits", y.opens(0, 0, 0), 1);
         int[] bad = {-1, 5, 9, 14, 19, 24, Integer.MIN_VALUE, Integer.MAX_VALUE};
         for (int what : bad) {
             d.due("keyOf(0, " + what + ")", x.keyOf(0, what), BAD);

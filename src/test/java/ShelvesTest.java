@@ -103,6 +103,7 @@ public final class ShelvesTest {
         d.due("onto itself, ahead", x.copy(0, 0, 2, 0, 3), 3);
         d.due("element(0, 0)", x.element(0, 0), 2);
         d.due("element(0, 1)", x.element(0, 1), 3);
+        d.due("all", x.copy(0, 0, 0, 0, 5), 5);
         d.due("none, at the ends", x.copy(0, 1, 5, 3, 0), 0);
         d.due("behind the end", x.copy(0, 1, 6, 3, 0), BAD);
         d.due("behind the other end", x.copy(0, 1, 5, 4, 0), BAD);
@@ -278,6 +279,10 @@ public final class ShelvesTest {
         d.due("is open", x.opens(0, 1, 1), 1);
         d.due("a new key is as new", x.key(0, 0), 1);
         d.due("uncut", x.keyOf(1, 2), 0);
+        x.may(1, 0, true);
+        x.back();
+        x.key(0, 0);
+        d.due("may none", x.keyOf(1, 4), 0);
     }
 
     private static void status() {

@@ -138,10 +138,17 @@ public final class ThoughtTest {
         d.due("coins", x.mended(0), 10);
         x.may(3, 0, true);
         d.due("a blank can't", x.mended(1), 8);
+        x.may(0, 2, true);
+        x.may(0, 0, true);
+        x.may(0, 1, false);
+        x.file(0, 0);
+        x.file(0, 0);
+        x.file(0, 0);
+        d.due("two can't", x.mended(1), 8 + 1);
         d.due("what 2", x.mended(2), BAD);
         d.due("what -1", x.mended(-1), BAD);
-        d.due("nothing is filed", x.keyOf(0, 2), 0);
-        d.due("no coins", x.status(5), 0);
+        d.due("nothing is filed", x.keyOf(1, 2), 2);
+        d.due("no coins", x.status(5), 6);
         CutDeeper y = Due.of("key 5 0;key 0 0;lock asks 1 0 0;lock asks 2 0 0;may 0 0;may 0 1;may 1 0;may 1 1");
         d.due("others as they are", y.mended(0), 6);
     }
@@ -191,6 +198,7 @@ public final class ThoughtTest {
         d.due("one key", x.pair(), STUCK);
         x.key(0, 0);
         d.due("two", x.pair(), 1);
+        d.due("no locks", Due.of("key 0 0;key 0 0;key 0 0").pair(), 1);
         Due.read(x, "key 0 0 cut 1 0 0;key 0 0 cut 0 1 0;key 0 0 cut 0 1 0;key 0 0 cut 1 0 0");
         d.due("the first that open most", x.pair(), 23);
         d.due("no keys", new CutDeeper().pair(), STUCK);
@@ -259,6 +267,13 @@ public final class ThoughtTest {
         d.due("some are broken", y.chain(), 5);
         y.ask(2, 1);
         d.due("more are broken", y.chain(), 3);
+        CutDeeper z = Due.of("places 1;key 0 0 cut 2;key 0 0 cut 1;key 0 0;lock;lock asks 1;lock asks 2");
+        d.due("three", z.chain(), 3);
+        z.file(2, 0);
+        d.due("two, for two open the same", z.chain(), 2);
+        CutDeeper w = Due.of("places 1;key 0 0;key 0 0 cut 2;key 0 0 cut 1;lock;lock asks 1;lock asks 2");
+        d.due("the least is the first", w.chain(), 3);
+        d.due("the least is the first of two", Due.of("key 0 0;key 0 0 cut 1 0 0;lock asks 1 0 0").chain(), 2);
     }
 
     private static void ward() {
@@ -299,6 +314,8 @@ public final class ThoughtTest {
         d.due("too few", x.found(0, 0), BAD);
         Due.tell(x, 0, 1, 1, 4);
         d.due("too deep", x.found(0, 0), BAD);
+        Due.tell(x, 0, 3, 1, 0);
+        d.due("as deep as can be", x.found(0, 0), 1 + 4 + 8);
         Due.tell(x, 0, -1, 1, 1);
         d.due("negative", x.found(0, 0), BAD);
         Due.tell(x, 0, 1L << 32, 1, 1);
