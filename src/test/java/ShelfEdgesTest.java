@@ -499,6 +499,14 @@ public final class ShelfEdgesTest {
         d.due("three are in use", x.status(10), 3);
         x.key(0, 0);
         d.due("a new key of that number isn't shown", x.holds(2), -1);
+        for (int s = 0; s < 8; s++) {
+            x.show(s, 2);
+        }
+        x.back();
+        for (int s = 0; s < 8; s++) {
+            d.due("each shelf gives it up", x.holds(s), -1);
+        }
+        d.due("none are in use", x.status(10), 0);
     }
 
     private static void backWithoutEnd() {
